@@ -436,12 +436,8 @@ public final class ThunderCartel {
             this.cause = cause;
         }
 
-        static Refusal because(int number, int detail) {
-            return new Refusal(number, detail, null);
-        }
-
         static Refusal ofCommand(int index, Refusal refusal) {
-            Refusal cause = refusal.number > 0 ? refusal : because(OTHER_EXCEPTION, 0);
+            Refusal cause = refusal.number > 0 ? refusal : new Refusal(OTHER_EXCEPTION, 0, null);
             return new Refusal(COMMAND_FAILED, index, cause);
         }
     }
@@ -974,57 +970,57 @@ public final class ThunderCartel {
         }
 
         private static Refusal refusalOfRange(int value, int least, int most) {
-            return isWithin(value, least, most) ? null : Refusal.because(Refusal.BAD_VALUE, 0);
+            return isWithin(value, least, most) ? null : new Refusal(Refusal.BAD_VALUE, 0, null);
         }
 
         private static Refusal refusalOfValue(int value, int least, int most, int present) {
             if (!isWithin(value, least, most)) {
-                return Refusal.because(Refusal.BAD_VALUE, 0);
+                return new Refusal(Refusal.BAD_VALUE, 0, null);
             }
-            return value != present ? null : Refusal.because(Refusal.IS_PRESENT, present);
+            return value != present ? null : new Refusal(Refusal.IS_PRESENT, present, null);
         }
 
         private Refusal refusalOfJoin(int capacity, int votes) {
             if (!isWithin(capacity, 1, MOST_CAPACITY) || !isWithin(votes, 1, MOST_VOTES)) {
-                return Refusal.because(Refusal.BAD_VALUE, 0);
+                return new Refusal(Refusal.BAD_VALUE, 0, null);
             }
-            return state.count < MOST_MEMBERS ? null : Refusal.because(Refusal.LIMIT_REACHED, MOST_MEMBERS);
+            return state.count < MOST_MEMBERS ? null : new Refusal(Refusal.LIMIT_REACHED, MOST_MEMBERS, null);
         }
 
         private Refusal refusalOfPardon(int member) {
             if (!state.hasMember(member)) {
-                return Refusal.because(Refusal.NO_MEMBER, 0);
+                return new Refusal(Refusal.NO_MEMBER, 0, null);
             }
-            return state.members[member].isLoyal() ? Refusal.because(Refusal.IS_LOYAL, member) : null;
+            return state.members[member].isLoyal() ? new Refusal(Refusal.IS_LOYAL, member, null) : null;
         }
 
         private Refusal refusalOfSale(int member, int units) {
             if (!state.hasMember(member)) {
-                return Refusal.because(Refusal.NO_MEMBER, 0);
+                return new Refusal(Refusal.NO_MEMBER, 0, null);
             }
             if (!isWithin(units, 1, MOST_UNITS)) {
-                return Refusal.because(Refusal.BAD_VALUE, 0);
+                return new Refusal(Refusal.BAD_VALUE, 0, null);
             }
             Member seller = state.members[member];
             if (!seller.isActive()) {
-                return Refusal.because(Refusal.IS_BARRED, seller.barredMonths);
+                return new Refusal(Refusal.IS_BARRED, seller.barredMonths, null);
             }
             int room = seller.capacity - seller.sales;
-            return units <= room ? null : Refusal.because(Refusal.OVER_CAPACITY, room);
+            return units <= room ? null : new Refusal(Refusal.OVER_CAPACITY, room, null);
         }
 
         private Refusal refusalOfAudit(int count) {
             if (!isWithin(count, 1, MOST_MEMBERS)) {
-                return Refusal.because(Refusal.BAD_VALUE, 0);
+                return new Refusal(Refusal.BAD_VALUE, 0, null);
             }
-            return count <= state.count ? null : Refusal.because(Refusal.TOO_FEW, state.count);
+            return count <= state.count ? null : new Refusal(Refusal.TOO_FEW, state.count, null);
         }
 
         private Refusal refusalOfPair(int first, int second) {
             if (!state.hasMember(first) || !state.hasMember(second)) {
-                return Refusal.because(Refusal.NO_MEMBER, 0);
+                return new Refusal(Refusal.NO_MEMBER, 0, null);
             }
-            return first != second ? null : Refusal.because(Refusal.BAD_VALUE, 0);
+            return first != second ? null : new Refusal(Refusal.BAD_VALUE, 0, null);
         }
 
         private Refusal refusalOfLink(int first, int second) {
@@ -1034,9 +1030,9 @@ public final class ThunderCartel {
             }
             int links = state.links.total();
             if (state.links.connects(first, second)) {
-                return Refusal.because(Refusal.LINK_STATE, links);
+                return new Refusal(Refusal.LINK_STATE, links, null);
             }
-            return links < MOST_LINKS ? null : Refusal.because(Refusal.LIMIT_REACHED, MOST_LINKS);
+            return links < MOST_LINKS ? null : new Refusal(Refusal.LIMIT_REACHED, MOST_LINKS, null);
         }
 
         private Refusal refusalOfCut(int first, int second) {
@@ -1045,7 +1041,7 @@ public final class ThunderCartel {
                 return refusal;
             }
             boolean linked = state.links.connects(first, second);
-            return linked ? null : Refusal.because(Refusal.LINK_STATE, state.links.total());
+            return linked ? null : new Refusal(Refusal.LINK_STATE, state.links.total(), null);
         }
 
         private int enter(int capacity, int votes) {
@@ -1252,16 +1248,13 @@ public final class ThunderCartel {
         }
 
         private static int digitsOf(char sign) {
-            switch (sign) {
-                case 'D':
-                    return 1;
-                case 'N':
-                    return 2;
-                case 'L':
-                    return 4;
-                default:
-                    return 0;
+            if (sign == 'D') {
+                return 1;
             }
+            if (sign == 'N') {
+                return 2;
+            }
+            return sign == 'L' ? 4 : 0;
         }
 
         /** Reads as many digits as there are, at most so many, or returns -1 if there is none. */

@@ -10,6 +10,7 @@ public final class AuditsLinksTest {
         linkWrong();
         unlink();
         watchers();
+        watchersOfAllLinks();
         Check.end();
     }
 
@@ -152,6 +153,32 @@ public final class AuditsLinksTest {
         Check.due("23 last", 0, x.unlink(2, 1));
         Check.denied("23 none", x, 4, 0, () -> x.unlink(0, 1));
         Check.due("22 again", 1, x.link(0, 1));
+    }
+
+    /** Each way to link five members, which stand at both ends of the seven. */
+    private static void watchersOfAllLinks() {
+        int[] places = {0, 1, 3, 5, 6};
+        for (int links = 0; links < 1 << 10; links++) {
+            ThunderCartel x = seven();
+            int[] open = new int[1 << 5];
+            int bit = 0;
+            for (int i = 0; i < 5; i++) {
+                for (int j = 0; j < i; j++) {
+                    if ((links >> bit & 1) == 1) {
+                        x.link(places[i], places[j]);
+                        for (int set = 0; set < 1 << 5; set++) {
+                            open[set] |= (set >> i & 1) + (set >> j & 1) == 0 ? 1 : 0;
+                        }
+                    }
+                    bit++;
+                }
+            }
+            int want = 5;
+            for (int set = 0; set < 1 << 5; set++) {
+                want = open[set] == 0 ? Math.min(want, Integer.bitCount(set)) : want;
+            }
+            watch("links " + links, want, x);
+        }
     }
 
     private static void watch(String what, int want, ThunderCartel x) {

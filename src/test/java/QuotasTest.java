@@ -87,6 +87,10 @@ public final class QuotasTest {
         Check.due("12 all", 1, x.assign(300));
         Check.due("12 one member", 300, x.quota(0));
         Check.due("12 back", 1, x.assign(0));
+        ThunderCartel least = Check.cartel(1, 1);
+        Check.due("12 least capacity", 1, least.assign(7));
+        Check.due("12 all to the least capacity", 7, least.quota(0));
+        Check.due("15 all to the least capacity", 300, least.quotaBy(0, 300, 1));
         for (int total : new int[] {-1, 301, Integer.MIN_VALUE, Integer.MAX_VALUE}) {
             Check.fails("12 " + total, Check.ARGUMENT, () -> x.assign(total));
         }
@@ -110,6 +114,17 @@ public final class QuotasTest {
         Check.due("12 all 0", "0 0 0", quotas(x));
         x.setRule(0);
         Check.due("12 none active by rule 0", 0, x.assign(5));
+        // 10, 30 and 30 divided by 7 leave 3, 2 and 2: the first gets the unit that is left
+        ThunderCartel y = Check.cartel(1, 1, 3, 1, 3, 1);
+        y.assign(10);
+        Check.due("12 before the bar", "2 4 4", quotas(y));
+        y.undo();
+        y.sell(0, 1);
+        Check.barAll(y);
+        y.assign(9);
+        Check.due("12 the barred one has no remainder", "0 5 4", quotas(y));
+        y.assign(300);
+        Check.due("12 nor a part of the sum", "0 150 150", quotas(y));
     }
 
     private static void sell() {
@@ -179,6 +194,7 @@ public final class QuotasTest {
         Check.due("15 rule 0", 7, x.quotaBy(3, 100, 0));
         Check.due("15 rule 1", 6, x.quotaBy(3, 100, 1));
         Check.due("15 first", 38, x.quotaBy(0, 100, 1));
+        Check.due("15 nothing", 0, x.quotaBy(0, 0, 0) + x.quotaBy(0, 0, 1));
         Check.due("15 quotas stay", "0 0 0 0", quotas(x));
         Check.due("15 not a change", 4, x.undoCount());
         Check.fails("15 no member", Check.INDEX, () -> x.quotaBy(4, 100, 0));

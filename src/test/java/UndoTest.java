@@ -137,6 +137,12 @@ public final class UndoTest {
         Check.due("54 not affected by undo", 3, x.restoreSnapshot());
         Check.due("54 members again", 3, x.memberCount());
         Check.due("53 none", 0, new ThunderCartel().saveSnapshot());
+        ThunderCartel y = Check.cartel(40, 7);
+        y.saveSnapshot();
+        y.undo();
+        y.addMember(30, 6);
+        y.restoreSnapshot();
+        Check.due("54 the member of the snapshot", "0:0/0/40v7", Check.line(y, 0));
     }
 
     private static void snapshotOfAll() {
