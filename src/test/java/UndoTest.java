@@ -10,37 +10,21 @@ public final class UndoTest {
         Check.end();
     }
 
-    /** All that the face tells of the state. */
-    private static String look(ThunderCartel x) {
-        StringBuilder look = new StringBuilder();
-        for (int i = 0; i < x.memberCount(); i++) {
-            look.append(Check.line(x, i)).append(' ');
-            for (int j = 0; j < i; j++) {
-                look.append(x.areLinked(i, j) ? '-' : '.');
-            }
-            look.append(x.quotaBy(i, 17, 0)).append(' ');
-            look.append(x.drawnMember(i)).append(' ');
-        }
-        look.append(x.winningCoalitions()).append(' ').append(x.month()).append(' ');
-        look.append(x.soldTotal()).append(' ').append(x.finedTotal()).append(' ').append(x.linkCount());
-        return look.toString();
-    }
-
     private static void eachChange() {
         ThunderCartel x = Check.cartel(40, 7, 30, 6, 9, 2);
         x.link(0, 1);
         x.sell(0, 9);
         x.sell(2, 9);
         x.audit(2);
-        String before = look(x);
+        String before = Check.look(x);
         Check.Call[] changes = {() -> x.addMember(5, 5), () -> x.pardon(2), () -> x.assign(22),
             () -> x.sell(1, 4), () -> x.audit(1), x::close, () -> x.link(1, 2), () -> x.unlink(0, 1),
             () -> x.setThreshold(3), () -> x.setSeed(1), () -> Check.run(x, "sell 1 4;close;seed 5")};
         for (int i = 0; i < changes.length; i++) {
             changes[i].answer();
-            Check.due("51 changed by " + i, false, before.equals(look(x)));
+            Check.due("51 changed by " + i, false, before.equals(Check.look(x)));
             Check.due("51 count after " + i, Math.min(7, x.undoCount() - 1), x.undo());
-            Check.due("51 undone " + i, before, look(x));
+            Check.due("51 undone " + i, before, Check.look(x));
         }
         x.setRule(1);
         x.undo();
@@ -156,15 +140,15 @@ public final class UndoTest {
         x.setThreshold(12);
         x.setRule(1);
         x.setSeed(9);
-        String saved = look(x);
+        String saved = Check.look(x);
         x.saveSnapshot();
         Check.run(x, "pardon 0;cut 0-2;link 1-2;close;sell 2 2");
         Check.run(x, "limit 5;rule 0;seed 8");
         x.assign(99);
         x.addMember(1, 1);
-        Check.due("54 changed", false, saved.equals(look(x)));
+        Check.due("54 changed", false, saved.equals(Check.look(x)));
         Check.due("54 members", 3, x.restoreSnapshot());
-        Check.due("54 restored", saved, look(x));
+        Check.due("54 restored", saved, Check.look(x));
         Check.due("54 rule", 1, x.setRule(0));
         Check.due("54 threshold", 12, x.setThreshold(1));
         Check.due("54 seed", 9, x.setSeed(1));
