@@ -156,7 +156,9 @@ public final class ReferenceTest {
         }
 
         private String digit() {
-            return "" + (next(12) == 0 ? next(10) : next(Math.max(1, cartel.memberCount())));
+            // the reference is asked, for each call of the cartel counts
+            int members = (Integer) reference.call("memberCount", 0, 0, 0);
+            return "" + (next(12) == 0 ? next(10) : next(Math.max(1, members)));
         }
 
         private String command() {

@@ -45,7 +45,15 @@ final class UndoBoundaries {
 
     /** All that can be told of the object, whose threshold, rule and seed are other ones afterwards. */
     static String all(ThunderCartel x) {
-        return Check.look(x) + " " + x.setThreshold(98) + " " + x.setRule(0) + " " + x.setSeed(0);
+        return Check.look(x) + " " + x.setThreshold(98) + " " + rule(x) + " " + x.setSeed(0);
+    }
+
+    private static int rule(ThunderCartel x) {
+        try {
+            return x.setRule(0);
+        } catch (UnsupportedOperationException denied) {
+            return 0;
+        }
     }
 
     private static void undo() {
@@ -62,8 +70,11 @@ final class UndoBoundaries {
         for (int i = 0; i < CHANGES.length; i++) {
             ThunderCartel y = some();
             CHANGES[i].make(y);
-            y.undo();
+            Check.due("the count before it is undone, " + i, 7, y.undo());
             Check.due("each kind of change, " + i, want, all(y));
+            ThunderCartel changed = some();
+            CHANGES[i].make(changed);
+            Check.due("each makes a difference, " + i, false, want.equals(all(changed)));
         }
         Doc.says(51, "Returns the number of changes that can be undone afterwards.");
         ThunderCartel y = Check.members(7);

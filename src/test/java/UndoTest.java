@@ -1,34 +1,12 @@
-/** Promises 51 to 54. */
+/** Promises 51 to 54; each kind of change is undone in UndoBoundaries. */
 public final class UndoTest {
     public static void main(String[] args) {
-        eachChange();
         eight();
         notChanges();
         undoOfTexts();
         snapshots();
         snapshotOfAll();
         Check.end();
-    }
-
-    private static void eachChange() {
-        ThunderCartel x = Check.cartel(40, 7, 30, 6, 9, 2);
-        x.link(0, 1);
-        x.sell(0, 9);
-        x.sell(2, 9);
-        x.audit(2);
-        String before = Check.look(x);
-        Check.Call[] changes = {() -> x.addMember(5, 5), () -> x.pardon(2), () -> x.assign(22),
-            () -> x.sell(1, 4), () -> x.audit(1), x::close, () -> x.link(1, 2), () -> x.unlink(0, 1),
-            () -> x.setThreshold(3), () -> x.setSeed(1), () -> Check.run(x, "sell 1 4;close;seed 5")};
-        for (int i = 0; i < changes.length; i++) {
-            changes[i].answer();
-            Check.due("51 changed by " + i, false, before.equals(Check.look(x)));
-            Check.due("51 count after " + i, Math.min(7, x.undoCount() - 1), x.undo());
-            Check.due("51 undone " + i, before, Check.look(x));
-        }
-        x.setRule(1);
-        x.undo();
-        Check.due("51 rule", 0, x.setRule(1));
     }
 
     private static void eight() {
