@@ -1,6 +1,9 @@
 import java.io.IOException;
 
-/** Every sentence of the document that names a boundary, with the smallest, the largest and what is past them. */
+/**
+ * Every sentence of the document's terms and promises: the ones that name a boundary with the smallest, the largest
+ * and what is past them, the other ones with ordinary answers.
+ */
 public final class BoundariesTest {
     public static void main(String[] args) throws IOException {
         Doc.read();
@@ -13,6 +16,7 @@ public final class BoundariesTest {
         AccountsBoundaries.run();
         TextsBoundaries.run();
         UndoBoundaries.run();
+        OrdinaryAnswers.run();
         Doc.noneIsLeft();
         Check.end();
     }

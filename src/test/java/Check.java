@@ -6,6 +6,10 @@ final class Check {
         Object answer();
     }
 
+    interface CallOf {
+        Object answer(ThunderCartel cartel);
+    }
+
     interface CallOfMember {
         Object answer(ThunderCartel cartel, int member);
     }

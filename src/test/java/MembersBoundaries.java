@@ -217,6 +217,19 @@ final class MembersBoundaries {
         x.sell(2, 1);
         // excesses 1 1 1, sales 2 20 20
         Check.due("the lower index last", "120", order(x));
+        ThunderCartel quotas = Check.cartel(50, 1, 25, 1, 25, 1);
+        // quotas 20 10 10
+        quotas.assign(40);
+        quotas.sell(0, 3);
+        quotas.sell(1, 4);
+        quotas.sell(2, 5);
+        Check.due("greater sales, whatever the quotas are", "210", order(quotas));
+        ThunderCartel barred = Check.cartel(9, 1, 9, 1, 9, 1);
+        barred.sell(1, 9);
+        barred.sell(2, 8);
+        Check.barAll(barred);
+        barred.sell(0, 7);
+        Check.due("barred or not", "120", order(barred));
         ThunderCartel seven = Check.members(7);
         for (int i = 0; i < 7; i++) {
             seven.sell(i, 1 + 5 * i % 7);

@@ -195,6 +195,14 @@ final class TermsBoundaries {
         Check.barAll(x);
         x.assign(30);
         Check.due("without the barred one", "0 10 20", QuotasBoundaries.quotas(x));
+        ThunderCartel undone = Check.cartel(1, 1, 1, 1, 1, 1);
+        // 2 of 3 for each: the remainders are 2, 2 and 2
+        undone.assign(2);
+        undone.undo();
+        undone.undo();
+        // 3, 3 of 2: the remainders are 1 and 1, and no third member is ahead of them any more
+        undone.assign(3);
+        Check.due("without the one that is undone", "2 1", QuotasBoundaries.quotas(undone));
         Doc.terms("By the rule 0, each of them first gets the total times its capacity divided by C, rounded down; "
             + "the units that are left are given one each to the members with the greatest remainders of these "
             + "divisions, and for equal remainders to the ones with the lowest indices.", 12);
@@ -225,6 +233,13 @@ final class TermsBoundaries {
         Check.due("below by 1 / 49", "48 1", quotas(1, 49, 97, 2));
         Check.due("seven alike", "43 43 43 43 43 43 42", quotas(1, 300, 7, 7, 7, 7, 7, 7, 7));
         Check.due("all 300 to one", "300", quotas(1, 300, 1));
+        ThunderCartel first = Check.cartel(99, 1, 7, 1, 3, 1);
+        first.setRule(1);
+        first.sell(0, 1);
+        Check.barAll(first);
+        first.assign(3);
+        // 7, 7 / 2 and 3: the first one would be ahead with 99, but it is barred
+        Check.due("the first one is barred", "0 2 1", QuotasBoundaries.quotas(first));
         Doc.terms("A quota can be greater than the capacity.", 16);
         Check.due("by rule 0", "3 297", quotas(0, 300, 1, 99));
         Check.due("by rule 1", "3 297", quotas(1, 300, 1, 99));
