@@ -416,7 +416,8 @@ final class Reference {
 
     private int writeMember(int member) {
         int[] m = at(member);
-        line = member + ":" + m[3] + "/" + m[2] + "/" + m[0] + "v" + m[1] + new String[] {"", "!", "!!", "xx", "x"}[m[4]];
+        String standing = new String[] {"", "!", "!!", "xx", "x"}[m[4]];
+        line = member + ":" + m[3] + "/" + m[2] + "/" + m[0] + "v" + m[1] + standing;
         return line.length();
     }
 

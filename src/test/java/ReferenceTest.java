@@ -9,12 +9,17 @@ import java.util.Map;
 
 /** Long runs of calls, all promises mixed, against the reference; the runs are the same at each start. */
 public final class ReferenceTest {
-    private static final int RUNS = 400;
+    private static final int RUNS = 1000;
     private static final int CALLS = 512;
     private static final int[] FAR = {-1, 7, 8, 100, 301, 1024, Integer.MAX_VALUE, Integer.MIN_VALUE};
     private static final String[] CHANGES = {"sell", "sell", "sell", "sell", "addMember", "assign", "assign",
         "audit", "audit", "close", "link", "link", "unlink", "pardon", "setRule", "setThreshold", "setSeed",
         "undo", "saveSnapshot", "restoreSnapshot"};
+
+    // in some runs the totals are small and the audits many, so that members are warned and barred
+    private static final String[] STRICT = {"sell", "sell", "sell", "addMember", "assign", "audit", "audit",
+        "audit", "audit", "audit", "close", "close", "link", "unlink", "setRule", "setThreshold", "pardon",
+        "undo", "saveSnapshot"};
 
     private static long state = 1;
 
@@ -49,6 +54,7 @@ public final class ReferenceTest {
 
     private static final class Run {
         private final int run;
+        private final boolean isStrict;
         private final List<Method> face;
         private final Map<String, Method> byName;
         private final ThunderCartel cartel = new ThunderCartel();
@@ -57,6 +63,7 @@ public final class ReferenceTest {
 
         Run(int run, List<Method> face, Map<String, Method> byName) {
             this.run = run;
+            isStrict = run % 4 >= 2;
             this.face = face;
             this.byName = byName;
         }
@@ -69,7 +76,7 @@ public final class ReferenceTest {
             while (calls < CALLS) {
                 int kind = next(100);
                 if (kind < 35) {
-                    some(CHANGES[next(CHANGES.length)]);
+                    some(isStrict ? STRICT[next(STRICT.length)] : CHANGES[next(CHANGES.length)]);
                 } else if (kind < 38) {
                     text();
                 } else if (kind < 40) {
@@ -99,7 +106,10 @@ public final class ReferenceTest {
                     call(name, member(), next(3) == 0 ? value(99) : 1 + next(12), 0);
                     break;
                 case "assign":
-                    call(name, next(2) == 0 ? value(300) : next(60), 0, 0);
+                    call(name, isStrict ? next(20) : next(2) == 0 ? value(300) : next(60), 0, 0);
+                    break;
+                case "audit":
+                    call(name, isStrict && next(4) > 0 ? members() : member(), 0, 0);
                     break;
                 case "quotaBy":
                     call(name, member(), value(300), next(20) == 0 ? value(2) : next(2));
@@ -155,10 +165,13 @@ public final class ReferenceTest {
             call("denialCause", 0, 0, 0);
         }
 
-        private String digit() {
+        private int members() {
             // the reference is asked, for each call of the cartel counts
-            int members = (Integer) reference.call("memberCount", 0, 0, 0);
-            return "" + (next(12) == 0 ? next(10) : next(Math.max(1, members)));
+            return (Integer) reference.call("memberCount", 0, 0, 0);
+        }
+
+        private String digit() {
+            return "" + (next(12) == 0 ? next(10) : next(Math.max(1, members())));
         }
 
         private String command() {
